@@ -178,12 +178,13 @@ public final class LogRiver {
         if (!isWithin(n, 0, tape.length) || !isWithin(day, 0, MAX_DAY)) {
             throw new IllegalArgumentException("the tape has not so many bytes, or there is no such day");
         }
-        reader.readText(n);
+        // The reader keeps to the n bytes that it is told of, so that the tape can be emptied ahead of it.
         tape.length = 0;
         faultPlace = NONE;
         if (laws.size() >= MAX_LAWS) {
             return TOO_MANY_LAWS;
         }
+        reader.readText(n);
         if (reader.fault != LawReader.NO_FAULT) {
             faultPlace = reader.faultPlace;
             return -1 - reader.fault;
@@ -971,7 +972,6 @@ public final class LogRiver {
         static final int LONG_NUMBER = 3;
         static final int NO_TOKEN = 4;
         private static final int BLANK = 5;
-        private static final String SIGNS = "();+-*/<=";
         private static final int MAX_DIGITS = 6;
 
         private final Tape tape;
@@ -1036,19 +1036,31 @@ public final class LogRiver {
         }
 
         private static int kindOf(int b) {
-            if (b == NONE) {
-                return END;
-            }
-            if (b == ' ' || b == '\n') {
-                return BLANK;
-            }
             if (b >= 'a' && b <= 'z') {
                 return WORD;
             }
             if (b >= '0' && b <= '9') {
                 return NUMBER;
             }
-            return SIGNS.indexOf((char) b) >= 0 ? b : NO_TOKEN;
+            switch (b) {
+                case NONE:
+                    return END;
+                case ' ':
+                case '\n':
+                    return BLANK;
+                case '(':
+                case ')':
+                case ';':
+                case '+':
+                case '-':
+                case '*':
+                case '/':
+                case '<':
+                case '=':
+                    return b;
+                default:
+                    return NO_TOKEN;
+            }
         }
     }
 
@@ -1101,7 +1113,9 @@ public final class LogRiver {
 
         private void readExpr(int within) {
             if (within >= MAX_OPEN_EXPRS) {
-                failTooDeep();
+                // Too much is only what could stand here otherwise; what couldn't keeps its own fault.
+                int faultHere = tokens.isWord("not") ? NO_FAULT : faultOfPart();
+                fail(faultHere == NO_FAULT ? TOO_MUCH : faultHere);
                 return;
             }
             readTest(within);
@@ -1185,12 +1199,6 @@ public final class LogRiver {
                 default:
                     return MISPLACED;
             }
-        }
-
-        // Too much is only what could stand here otherwise; what couldn't keeps its own fault.
-        private void failTooDeep() {
-            int faultHere = tokens.isWord("not") ? NO_FAULT : faultOfPart();
-            fail(faultHere == NO_FAULT ? TOO_MUCH : faultHere);
         }
 
         // 0 is no name's code.

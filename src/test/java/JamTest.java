@@ -117,13 +117,15 @@ public final class JamTest {
             x.hours(1);
             Check.due("jams after " + (k + 1) + " hours of the CREW", x.count(6), jams[k]);
         }
-        LogRiver idle = river(1, 1, 50);
-        idle.melt(0, 60);
-        idle.crew(-1, 0);
-        idle.hours(7);
-        idle.melt(0, 40);
-        idle.hours(1);
-        Check.due("a CREW with nothing to free isn't tired", idle.count(6), 0);
+        for (int idleHours = 6; idleHours <= 7; idleHours++) {
+            LogRiver idle = river(1, 1, 50);
+            idle.melt(0, 60);
+            idle.crew(-1, 0);
+            idle.hours(idleHours);
+            idle.melt(0, 40);
+            idle.hours(1);
+            Check.due("a CREW with nothing to free isn't tired", idle.count(6), 0);
+        }
     }
 
     private static void crewsThatMove() {

@@ -58,6 +58,8 @@ public final class LawTest {
         Check.due("its tape is empty", x.count(9), 0);
         Check.due("without a fault", x.fault(), -1);
         Check.due("count(3)", x.count(3), 6);
+        Check.due("the seventh, with a fault", Check.tell(x, "toll x;", 6), -9);
+        Check.due("it isn't read", x.fault(), -1);
     }
 
     /** What law() answers for a text on a new object, and fault(). */
@@ -94,6 +96,8 @@ public final class LawTest {
         fault("bar " + (char) 255 + ";", 1, 4);
         fault("bar1and2or3 x;", 1, 12);
         fault("barr 1;", 1, 0);
+        fault("far 1;", 1, 0);
+        fault("bar fark;", 3, 4);
         fault("bar sizes;", 3, 4);
         fault("bar siz;", 3, 4);
     }
