@@ -6,17 +6,23 @@ final class Check {
         long run();
     }
 
+    private static String test = "";
     private static int wrong = 0;
     private static int asked = 0;
 
     private Check() {
     }
 
+    /** From here on, what is printed is told with the name of this test. */
+    static void begin(String name) {
+        test = name + ": ";
+    }
+
     static void due(String what, long got, long want) {
         asked++;
         if (got != want) {
             wrong++;
-            System.out.println(what + " answered " + got + ", due is " + want);
+            System.out.println(test + what + " answered " + got + ", due is " + want);
         }
     }
 
@@ -36,7 +42,7 @@ final class Check {
         asked++;
         if (!got.equals(want)) {
             wrong++;
-            System.out.println(what + " answered " + got + ", due is " + want);
+            System.out.println(test + what + " answered " + got + ", due is " + want);
         }
     }
 
