@@ -69,6 +69,17 @@ public final class RiverBoundaryTest {
         Check.due("another object", Boundaries.seen(y), Boundaries.seen(new LogRiver()));
     }
 
+    static void promise01_the512thCall() {
+        LogRiver x = new LogRiver();
+        for (int log = 0; log < 400; log++) {
+            x.cut(0, 1, 0);
+        }
+        for (int call = 400; call < 511; call++) {
+            x.hours(1);
+        }
+        Check.due("hours(1)", x.hours(1), 112);
+    }
+
     // ---- promise 2: reach
 
     private static void isNoReach(int next, int length, int carry, int jam) {
